@@ -21,6 +21,7 @@ public final class PromisesTest {
         busy();
         plain();
         plainConditions();
+        plainConditionsWithPhase();
         plainOfOneRank();
         plainPhases();
         interrupt();
@@ -476,6 +477,34 @@ public final class PromisesTest {
         plains("with INNER and a phase", sums, true, false);
     }
 
+    /** With a phase told, the ANSWERS that these make greater would be above what is shown. */
+    private static void plainConditionsWithPhase() {
+        AnswerSums sums = smallWithPhase();
+        due("conditions: interrupt", 1, sums.interrupt(1, 20000));
+        plains("with a phase and an interrupt", sums, false, false);
+        sums = smallWithPhase();
+        due("conditions: spin", 1, sums.spin(1, 1));
+        plains("with a phase and spin", sums, false, false);
+        due("conditions: no spin", 1, sums.spin(1, 0));
+        plains("with a phase, without spin", sums, true, true);
+        sums = smallWithPhase();
+        due("conditions: jitter", 1, sums.jitter(1, 1));
+        plains("with a phase and jitter", sums, false, false);
+        sums = smallWithPhase();
+        due("conditions: burst", 1, sums.burst(2, 2, 5));
+        plains("with a phase and n 2", sums, false, false);
+        sums = smallWithPhase();
+        due("conditions: section", 1, sums.section(2, 1, 1));
+        plains("with a phase and a section", sums, false, false);
+    }
+
+    private static AnswerSums smallWithPhase() {
+        AnswerSums sums = small();
+        due("conditions: phase", 1, sums.offset(2, 1));
+        plains("with a phase", sums, true, true);
+        return sums;
+    }
+
     /** Whose activation came first goes first; then by number; who ran goes on while it has to. */
     private static void plainOfOneRank() {
         AnswerSums sums = new AnswerSums();
@@ -486,6 +515,16 @@ public final class PromisesTest {
         plains("of equals", sums, false, true);
         due("equals: 2 at 0", 1, sums.offset(2, 0));
         plains("of equals, a phase told", sums, true, true);
+
+        // by number alone 3 would wait for three of 1, as in the sums; but it came before the third
+        AnswerSums first = new AnswerSums();
+        due("first: 1", 1, add(first, 1, 2, 1));
+        due("first: 2", 2, add(first, 1, 3, 2));
+        due("first: 3", 3, add(first, 1, 6, 1));
+        answers("of first come", first, -1, 1, 6);
+        plains("of first come", first, false, true, false);
+        due("first: 1 at 0", 1, first.offset(1, 0));
+        plains("of first come with a phase", first, false, true, true);
 
         // all time is taken: who ends as its next activation comes goes on
         AnswerSums full = new AnswerSums();
