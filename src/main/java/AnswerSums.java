@@ -583,8 +583,6 @@ public final class AnswerSums {
         /** When the oldest activation came (or will come) that has not ended. */
         private final long[] oldest = new long[MOST_RUN_TASKS];
         private final long[] left = new long[MOST_RUN_TASKS];
-        /** Whether the task ran last of its RANK, and has had to go on ever since. */
-        private final boolean[] goesOn = new boolean[MOST_RUN_TASKS];
 
         long longestOf(int place) {
             return place >= 0 && place < count ? longest[place] : NONE;
@@ -640,7 +638,6 @@ public final class AnswerSums {
                     oldest[i] = told[i];
                 }
                 left[i] = own[i];
-                goesOn[i] = false;
             }
         }
 
@@ -672,12 +669,13 @@ public final class AnswerSums {
             return chosen;
         }
 
+        /**
+         * Whether the task of the greater number goes first. An activation that has begun was the
+         * first to come of its RANK, and is so until its end: that is how who ran goes on.
+         */
         private boolean goesBefore(int later, int earlier) {
             if (rank[later] != rank[earlier]) {
                 return rank[later] > rank[earlier];
-            }
-            if (goesOn[later] != goesOn[earlier]) {
-                return goesOn[later];
             }
             return oldest[later] < oldest[earlier];
         }
@@ -691,7 +689,6 @@ public final class AnswerSums {
                 oldest[who] += period[who];
                 left[who] = own[who];
             }
-            goesOn[who] = oldest[who] <= time + 1;
         }
     }
 }

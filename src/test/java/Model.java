@@ -1,7 +1,5 @@
 import java.util.ArrayList;
-import java.util.HashMap;
 import java.util.List;
-import java.util.Map;
 
 /**
  * The document's sums in their slowest and plainest form: spans are sought one microsecond after
@@ -239,7 +237,6 @@ final class Model {
         end *= 3;
         long greatest = 0;
         List<Activation> waiting = new ArrayList<>();
-        Map<Integer, Part> ran = new HashMap<>();
         for (long time = 0; time < end || waits(waiting, task(number), end); time++) {
             for (int i = 0; i < tasks.size(); i++) {
                 Part task = tasks.get(i);
@@ -251,12 +248,10 @@ final class Model {
                     waiting.add(activation);
                 }
             }
-            ran.values().removeIf(task -> !waits(waiting, task, Long.MAX_VALUE));
-            Activation chosen = chosen(waiting, ran);
+            Activation chosen = chosen(waiting);
             if (chosen == null) {
                 continue;
             }
-            ran.put(chosen.task.rank, chosen.task);
             chosen.left--;
             if (chosen.left == 0) {
                 waiting.remove(chosen);
@@ -276,13 +271,16 @@ final class Model {
         return waiting.stream().anyMatch(one -> one.task == task && one.came < before);
     }
 
-    /** The list is by time of activation, then by number, so the first that fits is the one. */
-    private static Activation chosen(List<Activation> waiting, Map<Integer, Part> ran) {
+    /**
+     * Of the highest RANK who has begun and not ended; else the first, as the list is by time of
+     * activation, then by number.
+     */
+    private static Activation chosen(List<Activation> waiting) {
         int highest = waiting.stream().mapToInt(one -> one.task.rank).max().orElse(-1);
         Activation first = null;
         for (Activation one : waiting) {
             if (one.task.rank == highest) {
-                if (one.task == ran.get(highest)) {
+                if (one.left < one.task.own) {
                     return one;
                 }
                 first = first == null ? one : first;

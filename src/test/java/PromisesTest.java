@@ -526,12 +526,19 @@ public final class PromisesTest {
         due("first: 1 at 0", 1, first.offset(1, 0));
         plains("of first come with a phase", first, false, true, true);
 
-        // all time is taken: who ends as its next activation comes goes on
+        // all time is taken: who has ended does not go on, as its next activation has not begun
         AnswerSums full = new AnswerSums();
         due("full: 1", 1, add(full, 1, 2, 1));
         due("full: 2", 2, add(full, 1, 2, 1));
         answers("of equals with all time", full, 2, 2);
-        plains("of equals with all time", full, true, true);
+        plains("of equals with all time", full, false, true);
+        AnswerSums longer = new AnswerSums();
+        due("full: 2 of 4", 1, add(longer, 2, 4, 3));
+        due("full: 2 of 4 again", 2, add(longer, 2, 4, 3));
+        answers("of equals of 2", longer, 4, 4);
+        plains("of equals of 2", longer, false, true);
+        due("full: 2 at 0", 1, longer.offset(2, 0));
+        plains("of equals of 2, a phase told", longer, true, true);
     }
 
     private static void plainPhases() {
