@@ -649,7 +649,7 @@ public final class PromisesTest {
         for (int number = 1; number <= 8; number++) {
             due("dear: interrupt", number, sums.interrupt(number == 8 ? 2 : 1, 9 + number % 2));
         }
-        for (int call = 0; call < 400; call++) {
+        for (int call = 0; call < 236; call++) {
             due("dear: jitter", 1, sums.jitter(1 + call % 16, 0));
             long longer = sums.longer(1 + call % 16);
             checks.due("dear: longer is told", true, longer >= -1 && longer < 1000);
